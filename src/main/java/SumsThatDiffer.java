@@ -173,7 +173,11 @@ public final class SumsThatDiffer {
         if (climb.crossings == 0 || k > climb.crossings) {
             return NONE;
         }
-        return k == 0 ? climb.gain() : climb.row[k - 1];
+        if (k == 0) {
+            return climb.gain();
+        }
+        climb.fillRow();
+        return climb.row[k - 1];
     }
 
     // ---- heights
@@ -781,7 +785,6 @@ public final class SumsThatDiffer {
                 advance();
                 raise(step, best[county.now.place]);
             }
-            fillRow();
         }
 
         int gain() {
@@ -795,8 +798,8 @@ public final class SumsThatDiffer {
             }
         }
 
-        /** Takes at each step the lowest ROAD behind which the greatest sum can still be come to. */
-        private void fillRow() {
+        /** Takes at each step of ROUND the lowest ROAD behind which its sum can still be come to. */
+        void fillRow() {
             int place = county.now.place;
             int sum = county.now.sum;
             for (int i = 0; i < crossings; i++) {
@@ -848,7 +851,7 @@ public final class SumsThatDiffer {
 
         private void carry(int r, int from, int to) {
             if (best[from] != UNREACHED) {
-                next[to] = Math.max(next[to], county.sumBehind(r, from, best[from]));
+                next[to] = Math.max(next[to], county.sumBy(r, county.figureFrom(r, from), best[from]));
             }
         }
     }
@@ -1122,35 +1125,29 @@ public final class SumsThatDiffer {
         /** Finds each F and each G that r can have, all others being as they are; false: none. */
         private boolean suppose(int r) {
             supposedRoad = r;
-            Arrays.fill(fCanBe, false);
-            Arrays.fill(gCanBe, false);
             sortByWays(r);
-            if (!hold(0)) {
-                return false;
-            }
+            boolean othersHold = hold(0);
             for (int figure = 0; figure <= MOST_FIGURE; figure++) {
                 supposedF = figure;
                 supposedG = figure;
-                fSuits[figure] = hold(FORTH);
-                gSuits[figure] = hold(HOME);
+                fSuits[figure] = othersHold && hold(FORTH);
+                gSuits[figure] = othersHold && hold(HOME);
+                fCanBe[figure] = false;
+                gCanBe[figure] = false;
             }
             boolean any = false;
             for (int f = 0; f <= MOST_FIGURE; f++) {
-                any |= fSuits[f] && pairUp(f);
-            }
-            return any;
-        }
-
-        private boolean pairUp(int f) {
-            supposedF = f;
-            for (int g = 0; g <= MOST_FIGURE; g++) {
-                supposedG = g;
-                if (gSuits[g] && hold(BOTH)) {
-                    fCanBe[f] = true;
-                    gCanBe[g] = true;
+                for (int g = 0; g <= MOST_FIGURE; g++) {
+                    supposedF = f;
+                    supposedG = g;
+                    if (fSuits[f] && gSuits[g] && hold(BOTH)) {
+                        fCanBe[f] = true;
+                        gCanBe[g] = true;
+                        any = true;
+                    }
                 }
             }
-            return fCanBe[f];
+            return any;
         }
 
         /** What goes over r one way alone hangs on F alone or on G alone: no pairs need be tried. */
@@ -1168,28 +1165,28 @@ public final class SumsThatDiffer {
             return county.startOf(r) == from ? FORTH : HOME;
         }
 
+        /** Whether all that is TOLD and goes over the supposed ROAD this way would be so. */
         private boolean hold(int way) {
             for (int i = 0; i < size; i++) {
-                if (ways[i] == way && sumOf(i) != comes[i]) {
-                    return false;
+                if (ways[i] == way) {
+                    int sum = supposedSum(firsts[i], places[i], sums[i]);
+                    if (seconds[i] != NONE) {
+                        sum = supposedSum(seconds[i], county.otherEnd(firsts[i], places[i]), sum);
+                    }
+                    if (sum != comes[i]) {
+                        return false;
+                    }
                 }
             }
             return true;
         }
 
-        private int sumOf(int i) {
-            int sum = supposedSum(firsts[i], places[i], sums[i]);
-            if (seconds[i] == NONE) {
-                return sum;
-            }
-            return supposedSum(seconds[i], county.otherEnd(firsts[i], places[i]), sum);
-        }
-
         private int supposedSum(int r, int from, int sum) {
-            if (r != supposedRoad) {
-                return county.sumBehind(r, from, sum);
+            int figure = county.figureFrom(r, from);
+            if (r == supposedRoad) {
+                figure = county.startOf(r) == from ? supposedF : supposedG;
             }
-            return county.sumBy(r, county.startOf(r) == from ? supposedF : supposedG, sum);
+            return county.sumBy(r, figure, sum);
         }
     }
 

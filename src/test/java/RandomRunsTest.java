@@ -5,6 +5,7 @@ public final class RandomRunsTest {
     private SumsThatDiffer x;
     private Model m;
     private int run;
+    private boolean steep;
 
     public static void main(String[] args) {
         RandomRunsTest test = new RandomRunsTest();
@@ -37,8 +38,12 @@ public final class RandomRunsTest {
         seed = 77777L + number * 1000003L;
         x = new SumsThatDiffer();
         m = new Model();
+        steep = number % 4 == 1;
         if (number % 5 != 0) {
             layAnother();
+        }
+        for (int climbs = 0; steep && climbs < 30; climbs++) {
+            alike("cross", x.cross(0), m.cross(0));
         }
         for (int calls = 0; calls < 220; calls++) {
             one();
@@ -77,9 +82,16 @@ public final class RandomRunsTest {
             int kind = below(4);
             int f = steady && kind != 3 ? 20 + heights[b] - heights[a] : below(41);
             int g = below(4) == 0 && !steady ? below(41) : 40 - f;
+            if (steep) {
+                kind = r == 0 ? 3 : kind;
+                f = r == 0 ? 36 + below(5) : 12 + below(29);
+                g = r == 0 ? 36 + below(5) : 12 + below(29);
+            }
             t.append('r').append(kind).append(',').append(a).append(',').append(b).append(',').append(f).append(',').append(g).append(';');
         }
-        if (below(4) != 0) {
+        if (steep && roads > 0) {
+            t.append('s').append(t.charAt(t.indexOf("r") + 3)).append(",99;");
+        } else if (below(4) != 0) {
             t.append('s').append(below(places)).append(',').append(below(100)).append(';');
         }
         for (int j = below(6); j > 0 && roads > 0; j--) {
@@ -122,13 +134,17 @@ public final class RandomRunsTest {
                 break;
             }
             case 14: {
-                int n = about(4), what = about(1);
-                alike("most", x.most(n, what), m.most(n, what));
+                for (int n = -1; n <= 6; n++) {
+                    alike("most " + n, x.most(n, n & 1), m.most(n, n & 1));
+                }
+                int what = about(1);
+                alike("most 5", x.most(5, what), m.most(5, what));
                 break;
             }
             case 15: {
-                int k = about(5);
-                alike("round", x.round(k), m.round(k));
+                for (int k = -1; k <= 6; k++) {
+                    alike("round " + k, x.round(k), m.round(k));
+                }
                 break;
             }
             case 16: alike("agree", x.agree(), m.agree()); break;
