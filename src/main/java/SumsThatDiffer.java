@@ -678,7 +678,10 @@ public final class SumsThatDiffer {
                 default:
                     break;
             }
-            return Math.max(0, Math.min(MOST_SUM, after));
+            if (after < 0) {
+                return 0;
+            }
+            return after > MOST_SUM ? MOST_SUM : after;
         }
 
         int bitsOfAll() {
