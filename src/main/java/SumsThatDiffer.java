@@ -667,7 +667,8 @@ public final class SumsThatDiffer {
             int after = sum + change;
             switch (kinds[r]) {
                 case BRIDGE:
-                    after = Math.floorDiv(after + 2, 5) * 5;
+                    // below 0 it comes to 0 or less, and so to 0 at last, whichever way the division cuts
+                    after = (after + 2) / 5 * 5;
                     break;
                 case TOLL:
                     after = after - 1;

@@ -289,6 +289,14 @@ public final class HeightsTest {
         x.shut(0, true);
         x.shut(1, true);
         due.is("fewest(), all are SHUT", x.fewest(), 0);
+        SumsThatDiffer unlike = Due.laid("r0,0,1,20,21;r0,0,1,20,20;r0,0,1,21,19;");
+        unlike.shut(0, true);
+        due.is("fewest(), one that is unlike back is SHUT", unlike.fewest(), 2);
+        unlike.shut(2, true);
+        due.is("fewest(), and the others agree", unlike.fewest(), 0);
+        SumsThatDiffer last = Due.laid("r0,0,1,21,19;r0,0,1,20,20;r0,0,1,20,21;");
+        last.shut(2, true);
+        due.is("fewest(), the last is unlike back and SHUT", last.fewest(), 1);
     }
 
     // ---- promise 19

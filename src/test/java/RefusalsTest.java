@@ -41,8 +41,8 @@ public final class RefusalsTest {
         for (int v = 0; v < 6; v++) {
             x.tell(0, 50, 0, v % 2 == 0 ? -4 : 1, 30 + v);
         }
-        while (x.write('x') > 0) {
-            continue;
+        for (int letters = x.count(8); letters < 200; letters++) {
+            x.write('x');
         }
         return x;
     }
