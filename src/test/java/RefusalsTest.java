@@ -6,7 +6,7 @@ import java.util.TreeSet;
 public final class RefusalsTest {
     private static final Due due = new Due("RefusalsTest");
 
-    /** One call of the face on numbers; a boolean is 0 or 1. */
+    /** One call of the face on these numbers. */
     private interface Call {
         int on(SumsThatDiffer x, int... numbers);
     }
