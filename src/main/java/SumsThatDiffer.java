@@ -408,29 +408,29 @@ public final class SumsThatDiffer {
 
         private boolean readNumbers(Letters letters, int wanted) {
             for (int i = 0; i < wanted && i < numbers.length; i++) {
-                if (!readNumber(letters, i)) {
+                int number = readNumber(letters);
+                if (number < 0 || !letters.has(place, i == wanted - 1 ? ';' : ',')) {
                     return false;
                 }
-                if (!letters.has(place, i == wanted - 1 ? ';' : ',')) {
-                    return false;
-                }
+                numbers[i] = number;
                 place++;
             }
             return true;
         }
 
-        private boolean readNumber(Letters letters, int i) {
-            int figure = letters.figureAt(place);
-            if (figure < 0) {
-                return false;
+        /** One or two figures, less than 0 if there is none. */
+        private int readNumber(Letters letters) {
+            int first = letters.figureAt(place);
+            if (first < 0) {
+                return -1;
             }
             place++;
             int second = letters.figureAt(place);
-            if (second >= 0) {
-                place++;
+            if (second < 0) {
+                return first;
             }
-            numbers[i] = second >= 0 ? figure * 10 + second : figure;
-            return true;
+            place++;
+            return first * 10 + second;
         }
 
         private boolean tellPlaces(int places) {
@@ -490,8 +490,8 @@ public final class SumsThatDiffer {
         private int size;
 
         Pile(int most) {
-            rows = new Standing[most];
-            for (int i = 0; i < most; i++) {
+            rows = new Standing[most > 0 ? most : 1];
+            for (int i = 0; i < rows.length; i++) {
                 rows[i] = new Standing();
             }
         }
@@ -512,12 +512,14 @@ public final class SumsThatDiffer {
             if (isFull()) {
                 dropOldest();
             }
-            rows[size].copyFrom(standing);
-            size++;
+            if (size < rows.length) {
+                rows[size].copyFrom(standing);
+                size++;
+            }
         }
 
         boolean popInto(Standing standing) {
-            if (size <= 0) {
+            if (size <= 0 || size > rows.length) {
                 return false;
             }
             size--;
@@ -526,11 +528,11 @@ public final class SumsThatDiffer {
         }
 
         private void dropOldest() {
-            Standing oldest = rows[0];
             for (int i = 1; i < rows.length; i++) {
+                Standing older = rows[i - 1];
                 rows[i - 1] = rows[i];
+                rows[i] = older;
             }
-            rows[rows.length - 1] = oldest;
             size = rows.length - 1;
         }
     }
@@ -609,20 +611,22 @@ public final class SumsThatDiffer {
             return steps;
         }
 
+        // NONE is no ROAD, no KIND and no PLACE: who asks for one that is not there comes to nothing by it
+
         int planned(int i) {
-            return plan[i];
+            return i >= 0 && i < steps ? plan[i] : NONE;
         }
 
         int kindOf(int r) {
-            return kinds[r];
+            return r >= 0 && r < roads ? kinds[r] : NONE;
         }
 
         int startOf(int r) {
-            return starts[r];
+            return r >= 0 && r < roads ? starts[r] : NONE;
         }
 
         int endOf(int r) {
-            return ends[r];
+            return r >= 0 && r < roads ? ends[r] : NONE;
         }
 
         boolean hasPlace(int p) {
@@ -643,18 +647,24 @@ public final class SumsThatDiffer {
         }
 
         int otherEnd(int r, int p) {
+            if (!hasRoad(r)) {
+                return NONE;
+            }
             return starts[r] == p ? ends[r] : starts[r];
         }
 
         /** F or G, as the way from p wants it. */
         int figureFrom(int r, int p) {
+            if (r < 0 || r >= roads) {
+                return FIGURE_OF_NO_CHANGE;
+            }
             return starts[r] == p ? now.f[r] : now.g[r];
         }
 
         /** CHANGE, which a bridge's rounding and a toll are no part of. */
         int changeFrom(int r, int p) {
             int change = figureFrom(r, p) - FIGURE_OF_NO_CHANGE;
-            return kinds[r] == DOUBLE ? 2 * change : change;
+            return hasRoad(r) && kinds[r] == DOUBLE ? 2 * change : change;
         }
 
         int sumBehind(int r, int p, int sum) {
@@ -665,7 +675,7 @@ public final class SumsThatDiffer {
         int sumBy(int r, int figure, int sum) {
             int change = figure - FIGURE_OF_NO_CHANGE;
             int after = sum + change;
-            switch (kinds[r]) {
+            switch (r >= 0 && r < roads ? kinds[r] : NONE) {
                 case BRIDGE:
                     // below 0 it comes to 0 or less, and so to 0 at last, whichever way the division cuts
                     after = (after + 2) / 5 * 5;
@@ -787,7 +797,7 @@ public final class SumsThatDiffer {
             crossings = 0;
             for (int step = 1; step <= LONGEST_SEARCH; step++) {
                 advance();
-                raise(step, best[county.now.place]);
+                raise(step, bestAtHome());
             }
         }
 
@@ -806,7 +816,7 @@ public final class SumsThatDiffer {
         void fillRow() {
             int place = county.now.place;
             int sum = county.now.sum;
-            for (int i = 0; i < crossings; i++) {
+            for (int i = 0; i < crossings && i < row.length; i++) {
                 int r = firstToHighest(place, sum, crossings - 1 - i);
                 if (r < 0) {
                     return;
@@ -832,12 +842,19 @@ public final class SumsThatDiffer {
             for (int step = 0; step < left; step++) {
                 advance();
             }
-            return best[county.now.place];
+            return bestAtHome();
+        }
+
+        private int bestAtHome() {
+            int home = county.now.place;
+            return county.hasPlace(home) ? best[home] : UNREACHED;
         }
 
         private void begin(int place, int sum) {
             Arrays.fill(best, UNREACHED);
-            best[place] = sum;
+            if (county.hasPlace(place)) {
+                best[place] = sum;
+            }
         }
 
         private void advance() {
@@ -854,7 +871,7 @@ public final class SumsThatDiffer {
         }
 
         private void carry(int r, int from, int to) {
-            if (best[from] != UNREACHED) {
+            if (county.hasPlace(from) && county.hasPlace(to) && best[from] != UNREACHED) {
                 next[to] = Math.max(next[to], county.sumBy(r, county.figureFrom(r, from), best[from]));
             }
         }
@@ -877,11 +894,11 @@ public final class SumsThatDiffer {
         }
 
         int of(int p) {
-            return height[p];
+            return county.hasPlace(p) ? height[p] : FIRST_HEIGHT;
         }
 
         boolean hangTogether(int a, int b) {
-            return lowest[a] == lowest[b];
+            return county.hasPlace(a) && county.hasPlace(b) && lowest[a] == lowest[b];
         }
 
         int fewestToShut() {
@@ -913,7 +930,9 @@ public final class SumsThatDiffer {
             Arrays.fill(lowest, UNREACHED);
             for (int p = 0; p < county.places(); p++) {
                 if (lowest[p] == UNREACHED) {
-                    spreadFrom(p, open);
+                    lowest[p] = p;
+                    height[p] = FIRST_HEIGHT;
+                    spread(open);
                 }
             }
             for (int r = 0; r < county.roads(); r++) {
@@ -924,9 +943,7 @@ public final class SumsThatDiffer {
             return true;
         }
 
-        private void spreadFrom(int first, int open) {
-            lowest[first] = first;
-            height[first] = FIRST_HEIGHT;
+        private void spread(int open) {
             boolean spreads = true;
             for (int pass = 0; pass < county.places() && spreads; pass++) {
                 spreads = false;
@@ -940,6 +957,9 @@ public final class SumsThatDiffer {
 
         private boolean carry(int r, int from) {
             int to = county.otherEnd(r, from);
+            if (!county.hasPlace(from) || !county.hasPlace(to)) {
+                return false;
+            }
             if (lowest[from] == UNREACHED || lowest[to] != UNREACHED) {
                 return false;
             }
@@ -951,7 +971,7 @@ public final class SumsThatDiffer {
         private boolean suits(int r) {
             int start = county.startOf(r);
             int end = county.endOf(r);
-            int rise = height[end] - height[start];
+            int rise = of(end) - of(start);
             return county.changeFrom(r, start) == rise && county.changeFrom(r, end) == -rise;
         }
     }
@@ -1008,7 +1028,7 @@ public final class SumsThatDiffer {
         }
 
         private void carry(int r, int from, int to) {
-            if ((reached & 1 << from) == 0) {
+            if (!county.hasPlace(from) || !county.hasPlace(to) || (reached & 1 << from) == 0) {
                 return;
             }
             int change = county.changeFrom(r, from);
@@ -1211,7 +1231,7 @@ public final class SumsThatDiffer {
             countSets(a, b, notShut);
             above = 0;
             below = power(TENTHS, most);
-            for (int open = 0; open <= most; open++) {
+            for (int open = 0; open <= most && open < setsBySize.length; open++) {
                 above += setsBySize[open] * power(x, open) * power(TENTHS - x, most - open);
             }
             lowestTerms();
@@ -1220,8 +1240,9 @@ public final class SumsThatDiffer {
         private void countSets(int a, int b, int notShut) {
             Arrays.fill(setsBySize, 0);
             for (int open = 0; open <= notShut; open++) {
-                if ((open & ~notShut) == 0 && leads(a, b, open)) {
-                    setsBySize[Integer.bitCount(open)]++;
+                int roads = Integer.bitCount(open);
+                if ((open & ~notShut) == 0 && roads < setsBySize.length && leads(a, b, open)) {
+                    setsBySize[roads]++;
                 }
             }
         }
